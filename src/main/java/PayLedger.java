@@ -147,7 +147,7 @@ public final class PayLedger {
 
     public boolean enrol(int worker, int deduction, boolean on) throws IndexOutOfBoundsException {
         Worker w = workerNumbered(worker);
-        deductionNumbered(deduction);
+        needDeduction(deduction);
         boolean other = w.terms.has(deduction) != on;
         if (other) {
             w.terms.turn(deduction);
@@ -202,7 +202,7 @@ public final class PayLedger {
 
     public long part(int worker, int pay, int deduction) throws IndexOutOfBoundsException, NoSuchElementException {
         Worker w = workerNumbered(worker);
-        deductionNumbered(deduction);
+        needDeduction(deduction);
         Pay p = payNumbered(w, pay);
         return elementOf(p.parts, deduction);
     }
@@ -217,7 +217,7 @@ public final class PayLedger {
 
     public long deducted(int worker, int deduction) throws IndexOutOfBoundsException {
         Worker w = workerNumbered(worker);
-        deductionNumbered(deduction);
+        needDeduction(deduction);
         return w.totalPart(deduction);
     }
 
@@ -299,12 +299,10 @@ public final class PayLedger {
         return t;
     }
 
-    private Deduction deductionNumbered(int number) {
-        Deduction d = number < 0 || number >= deductions.length ? null : deductions[number];
-        if (d == null) {
+    private void needDeduction(int number) {
+        if (number < 0 || number >= deductions.length || deductions[number] == null) {
             throw new IndexOutOfBoundsException("there is no such deduction");
         }
-        return d;
     }
 
     private Worker workerNumbered(int number) {

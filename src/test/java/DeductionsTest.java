@@ -87,6 +87,14 @@ public final class DeductionsTest {
             check.due("net of " + row[0], row[0] - row[1], x.ask(0, row[0], false));
             check.due("net of a bonus of " + row[0], row[0] - row[1], x.ask(0, row[0], true));
         }
+        PayLedger y = Offices.untaxed();
+        y.deduction(true, 1, 499999, PayLedger.NONE, 0);
+        y.deduction(true, 1, 500000, PayLedger.NONE, 0);
+        y.enrol(0, 0, true);
+        check.due("just below a half", 1, y.ask(0, 1, false));
+        y.enrol(0, 0, false);
+        y.enrol(0, 1, true);
+        check.due("a half is rounded up", 0, y.ask(0, 1, false));
     }
 
     private static void bases() {
@@ -108,6 +116,15 @@ public final class DeductionsTest {
         x.close();
         x.pay(0, 2000, false);
         check.due("a base for each year", 100, x.part(0, 0, 0));
+        PayLedger y = Offices.untaxed();
+        y.deduction(false, 2, 1000000, PayLedger.NONE, 10);
+        y.enrol(0, 0, true);
+        y.pay(0, 9, false);
+        y.pay(0, 5, false);
+        y.pay(0, 5, false);
+        check.due("one below the base", 9, y.part(0, 0, 0));
+        check.due("the last one of the base", 1, y.part(0, 1, 0));
+        check.due("nothing of the base", 0, y.part(0, 2, 0));
     }
 
     private static void caps() {

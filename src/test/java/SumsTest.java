@@ -72,6 +72,11 @@ public final class SumsTest {
         x.stage(1, 0, 1000000);
         x.change(0, 4, 1);
         check.due("by the table that the worker has now", 1500005, x.duty(0));
+        x.change(0, 1, 1500005);
+        check.due("all is relief", 0, x.duty(0));
+        x.change(0, 1, 1500004);
+        check.due("all but one is relief", 1, x.duty(0));
+        x.change(0, 1, 0);
         x.deduction(true, 1, 100000, PayLedger.NONE, 0);
         x.enrol(0, 0, true);
         x.pay(0, 100, false);

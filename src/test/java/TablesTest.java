@@ -99,6 +99,13 @@ public final class TablesTest {
         y.table();
         y.stage(0, 0, 1000000);
         check.due("all of the highest amount", Offices.TRILLION, y.tax(0, Offices.TRILLION));
+        y.table();
+        y.stage(1, 0, 499999);
+        check.due("just below a half", 0, y.tax(1, 1));
+        y.table();
+        y.stage(2, 0, 500000);
+        check.due("a half is rounded up", 1, y.tax(2, 1));
+        check.due("a whole one", 1, y.tax(2, 2));
         // 3 times 1/3 rounded at each stage would be 0; added up exactly it is 1.
         PayLedger z = new PayLedger();
         z.table();
