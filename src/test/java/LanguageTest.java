@@ -8,80 +8,22 @@ import java.lang.reflect.Modifier;
 import java.nio.file.Files;
 import java.nio.file.Path;
 import java.util.ArrayList;
-import java.util.Arrays;
 import java.util.List;
 import java.util.Set;
 import java.util.TreeSet;
 import java.util.regex.Matcher;
 import java.util.regex.Pattern;
 
-/** The face of the class, and such rules of LANGUAGE.md as can be seen from outside. */
+/** Such rules of LANGUAGE.md as can be seen from outside; those on the face are FaceTest's. */
 public final class LanguageTest {
     private static final Path SOURCE = Path.of("src/main/java/PayLedger.java");
     private static final Check check = new Check();
 
-    private static final String[] FACE = {
-        "int table() UnsupportedOperationException",
-        "int stage(int, long, int) IndexOutOfBoundsException IllegalArgumentException IllegalStateException"
-                + " UnsupportedOperationException",
-        "long tax(int, long) IndexOutOfBoundsException IllegalArgumentException",
-        "int deduction(boolean, int, long, long, long) IllegalArgumentException UnsupportedOperationException",
-        "int employ(int, int, int) IndexOutOfBoundsException IllegalArgumentException"
-                + " UnsupportedOperationException",
-        "void change(int, int, long) IndexOutOfBoundsException IllegalArgumentException",
-        "boolean enrol(int, int, boolean) IndexOutOfBoundsException",
-        "void bonus(int) IllegalArgumentException",
-        "int pay(int, long, boolean) IndexOutOfBoundsException IllegalArgumentException"
-                + " UnsupportedOperationException",
-        "long ask(int, long, boolean) IndexOutOfBoundsException IllegalArgumentException"
-                + " UnsupportedOperationException",
-        "int correct(int, int, long) IndexOutOfBoundsException NoSuchElementException IllegalArgumentException",
-        "long line(int, int, int) IndexOutOfBoundsException NoSuchElementException IllegalArgumentException",
-        "long part(int, int, int) IndexOutOfBoundsException NoSuchElementException",
-        "long sum(int, int) IndexOutOfBoundsException IllegalArgumentException",
-        "long deducted(int, int) IndexOutOfBoundsException",
-        "long settle(int) IndexOutOfBoundsException",
-        "long duty(int) IndexOutOfBoundsException",
-        "int close() IllegalStateException UnsupportedOperationException",
-        "long statement(int, int, int) IndexOutOfBoundsException NoSuchElementException IllegalArgumentException",
-        "long office(int) IllegalArgumentException",
-        "int count(int)"};
-
     public static void main(String[] args) throws IOException {
-        face();
         members();
         words();
         lengths();
         check.end("LanguageTest");
-    }
-
-    private static void face() {
-        Set<String> open = new TreeSet<>();
-        for (Method m : PayLedger.class.getDeclaredMethods()) {
-            if (!Modifier.isPrivate(m.getModifiers())) {
-                open.add(written(m));
-            }
-        }
-        check.due("the open methods", new TreeSet<>(Arrays.asList(FACE)).toString(), open.toString());
-        check.due("open constructors", 1, PayLedger.class.getConstructors().length);
-        check.dueTrue("public and final", PayLedger.class.getModifiers() == (Modifier.PUBLIC | Modifier.FINAL));
-        for (Field f : PayLedger.class.getDeclaredFields()) {
-            boolean none = f.getName().equals("NONE");
-            check.dueTrue("field " + f.getName(), none == !Modifier.isPrivate(f.getModifiers()));
-        }
-    }
-
-    private static String written(Method m) {
-        StringBuilder text = new StringBuilder(m.getReturnType().getSimpleName()).append(' ').append(m.getName());
-        List<String> types = new ArrayList<>();
-        for (Class<?> type : m.getParameterTypes()) {
-            types.add(type.getSimpleName());
-        }
-        text.append('(').append(String.join(", ", types)).append(')');
-        for (Class<?> type : m.getExceptionTypes()) {
-            text.append(' ').append(type.getSimpleName());
-        }
-        return text.toString();
     }
 
     private static void members() {
@@ -92,7 +34,6 @@ public final class LanguageTest {
         Class<?>[] inside = PayLedger.class.getDeclaredClasses();
         check.dueTrue("some twelve classes", inside.length + 1 <= 12);
         for (Class<?> c : inside) {
-            check.dueTrue(c.getName() + " is static", Modifier.isStatic(c.getModifiers()));
             lookInto(c, names);
         }
         lookInto(PayLedger.class, names);
